@@ -139,7 +139,7 @@ public final class KeptTerms {
         if (!isPlace(place) || !isNumbersType(type)) {
             return NOTHING;
         }
-        int found = numbersFault(places[place], type, i);
+        int found = cellFault(places[place], type, i);
         Numbers row = asNumbers(places[place]);
         if (found != 0 || row == null) {
             return failedLong(found);
@@ -155,7 +155,7 @@ public final class KeptTerms {
         if (!isNumbersType(type)) {
             return OUT_OF_BOUNDS;
         }
-        int found = numbersFault(places[place], type, i);
+        int found = cellFault(places[place], type, i);
         Numbers row = asNumbers(places[place]);
         if (found != 0 || row == null) {
             return failed(found);
@@ -172,12 +172,10 @@ public final class KeptTerms {
         if (!mayBeCast(places[place], ROWS) || !mayBeCast(places[other], BYTES)) {
             return failed(FAULT_CAST);
         }
+        int found = cellFault(places[place], ROWS, i);
         Rows rows = asRows(places[place]);
-        if (rows == null) {
-            return failed(FAULT_NOTHING);
-        }
-        if (!rows.hasCell(i)) {
-            return failed(FAULT_INDEX);
+        if (found != 0 || rows == null) {
+            return failed(found);
         }
         rows.cells[i] = asBytes(places[other]);
         return 1;
@@ -188,7 +186,7 @@ public final class KeptTerms {
         if (!isPlace(place) || !isPlace(other)) {
             return NO_PLACE;
         }
-        int found = rowsFault(places[other], i);
+        int found = cellFault(places[other], ROWS, i);
         Rows rows = asRows(places[other]);
         if (found != 0 || rows == null) {
             return failed(found);
@@ -203,7 +201,7 @@ public final class KeptTerms {
         if (!isPlace(place)) {
             return NOTHING;
         }
-        int found = rowsFault(places[place], i);
+        int found = cellFault(places[place], ROWS, i);
         Rows rows = asRows(places[place]);
         if (found != 0 || rows == null) {
             return failedLong(found);
@@ -419,7 +417,15 @@ public final class KeptTerms {
         if (into == null || from == null) {
             return failed(FAULT_NOTHING);
         }
-        return mergedInto(into, from);
+        int before = into.termCount;
+        // A TABLE that is merged into itself may get TERMS on the way: only those from before come.
+        int coming = from.termCount;
+        for (int k = 0; k < coming; k++) {
+            if (counted(into, into.admit(from.terms[k])) == NO_ROOM) {
+                return NO_ROOM;
+            }
+        }
+        return into.termCount - before;
     }
 
     /** How many rows KEEPERS keep in all. */
@@ -488,7 +494,7 @@ public final class KeptTerms {
         return NOTHING;
     }
 
-    private static int numbersFault(Thing thing, int type, int i) {
+    private static int cellFault(Thing thing, int type, int i) {
         if (!mayBeCast(thing, type)) {
             return FAULT_CAST;
         }
@@ -497,10 +503,6 @@ public final class KeptTerms {
             return FAULT_NOTHING;
         }
         return row.hasCell(i) ? 0 : FAULT_INDEX;
-    }
-
-    private static int rowsFault(Thing thing, int i) {
-        return numbersFault(thing, ROWS, i);
     }
 
     private static int tableFault(Thing thing) {
@@ -571,18 +573,6 @@ public final class KeptTerms {
         return answer;
     }
 
-    private int mergedInto(Table into, Table from) {
-        int before = into.termCount;
-        // A TABLE that is merged into itself may get TERMS on the way: only those from before come.
-        int coming = from.termCount;
-        for (int k = 0; k < coming; k++) {
-            if (counted(into, into.admit(from.terms[k])) == NO_ROOM) {
-                return NO_ROOM;
-            }
-        }
-        return into.termCount - before;
-    }
-
     /** What a place may hold. */
     private abstract static class Thing {
         abstract int kind();
@@ -614,18 +604,7 @@ public final class KeptTerms {
 
         abstract void putNumber(int i, int v);
 
-        boolean isLike(Numbers other) {
-            int n = cellCount();
-            if (kind() != other.kind() || n != other.cellCount()) {
-                return false;
-            }
-            for (int i = 0; i < n; i++) {
-                if (number(i) != other.number(i)) {
-                    return false;
-                }
-            }
-            return true;
-        }
+        abstract boolean isLike(Numbers other);
 
         int contentHash() {
             int hash = 0;
@@ -677,6 +656,23 @@ public final class KeptTerms {
             cells[i] = (byte) v;
         }
 
+        boolean isLike(Numbers other) {
+            return other instanceof Bytes && hasAll(((Bytes) other).cells);
+        }
+
+        // By the cells themselves: tables and KEEPERS do little else.
+        private boolean hasAll(byte[] others) {
+            if (cells.length != others.length) {
+                return false;
+            }
+            for (int i = 0; i < cells.length; i++) {
+                if (cells[i] != others[i]) {
+                    return false;
+                }
+            }
+            return true;
+        }
+
         Bytes newTwin() {
             return new Bytes(cells.clone());
         }
@@ -691,7 +687,7 @@ public final class KeptTerms {
         int against(Bytes other) {
             int shared = Math.min(cells.length, other.cells.length);
             for (int i = 0; i < shared; i++) {
-                int difference = numberWithoutSign(i) - other.numberWithoutSign(i);
+                int difference = (cells[i] & 0xFF) - (other.cells[i] & 0xFF);
                 if (difference != 0) {
                     return difference < 0 ? -1 : 1;
                 }
@@ -725,6 +721,22 @@ public final class KeptTerms {
 
         void putNumber(int i, int v) {
             cells[i] = (char) v;
+        }
+
+        boolean isLike(Numbers other) {
+            return other instanceof Signs && hasAll(((Signs) other).cells);
+        }
+
+        private boolean hasAll(char[] others) {
+            if (cells.length != others.length) {
+                return false;
+            }
+            for (int i = 0; i < cells.length; i++) {
+                if (cells[i] != others[i]) {
+                    return false;
+                }
+            }
+            return true;
         }
 
         Signs newTwin() {
@@ -912,7 +924,8 @@ public final class KeptTerms {
         }
 
         Bytes rowFor(Bytes coming) {
-            return pool.keptFor(coming);
+            Bytes elder = pool.eldestLike(coming);
+            return elder == null ? pool.keep(coming.newTwin()) : elder;
         }
     }
 
@@ -925,23 +938,27 @@ public final class KeptTerms {
             rows = new Bytes[FIRST_KEPT];
         }
 
-        /** The eldest row that is LIKE, else a twin that is kept from now on; null: no room. */
-        Bytes keptFor(Bytes coming) {
+        /** null: there is none. */
+        Bytes eldestLike(Bytes coming) {
             for (int k = 0; k < count; k++) {
                 if (rows[k].isLike(coming)) {
                     return rows[k];
                 }
             }
+            return null;
+        }
+
+        /** The row itself; null: there is no room for it. */
+        Bytes keep(Bytes row) {
             if (count >= MOST_KEPT) {
                 return null;
             }
             if (count >= rows.length) {
                 widen();
             }
-            Bytes twin = coming.newTwin();
-            rows[count] = twin;
+            rows[count] = row;
             count++;
-            return twin;
+            return row;
         }
 
         private void widen() {

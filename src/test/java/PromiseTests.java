@@ -430,6 +430,11 @@ public final class PromiseTests {
         due("signs", x.like(2, 8), 1);
         x.set(8, 2, 1, 7);
         due("the last differs", x.like(2, 8), 0);
+        signs(x, 8, 4, 6);
+        due("the first differs", x.like(2, 8), 0);
+        signs(x, 8, 5, 6, 0);
+        due("longer", x.like(2, 8), 0);
+        due("shorter", x.like(8, 2), 0);
         bytes(x, 7, 5, 6);
         due("unlike kinds", x.like(7, 2), 0);
         x.make(7, 1, 0);
@@ -691,6 +696,10 @@ public final class PromiseTests {
         x.add(5, 1);
         x.add(4, 1);
         due("the next", x.slot(4, first + 1), 1);
+        bytes(x, 1, 127, 127, 127, 127, 127, 127, 127);
+        x.add(4, 1);
+        int wide = (int) x.hash(1);
+        due("xor", x.slot(4, (wide ^ (wide >>> 16)) & 63), 2);
         due("of a KEEPER", x.slot(5, 3), 0);
         due("index", x.slot(5, 4), -13);
         due("index", x.slot(4, -1), -13);
