@@ -35,20 +35,38 @@ public final class PlacesBoundaries extends Sentences {
         due("again", x.fault(), 1);
     }
 
-    private static void callsWithoutAFault() {
-        KeptTerms x = scene();
-        due("none so far", x.fault(), 0);
-        x.make(9, 1, -1);
-        x.make(10, 1, -1);
-        x.make(9, 0, -1);
-        x.get(10, 1, 0);
-        x.get(1, 3, 0);
-        x.take(9, 3, 1);
-        x.find(5, 6);
-        x.slot(5, 0);
-        x.set(1, 1, 0, 1);
-        due("the latest that had one", x.fault(), 5);
+    private static void noFaultSoFar() {
+        KeptTerms x = new KeptTerms();
+        due("at first", x.fault(), 0);
+        for (Call call : CALLS_WITHOUT_A_FAULT) {
+            x = scene();
+            call.on(x);
+            due("behind a call without one", x.fault(), 0);
+        }
     }
+
+    private static void callsWithoutAFault() {
+        for (int k = 0; k < CALLS_WITHOUT_A_FAULT.length; k++) {
+            KeptTerms x = scene();
+            x.make(9, 1, -1);
+            CALLS_WITHOUT_A_FAULT[k].on(x);
+            due("behind call " + k, x.fault(), 5);
+        }
+    }
+
+    /** In the scene each of them is done or refused. */
+    private static final Call[] CALLS_WITHOUT_A_FAULT = {x -> x.make(9, 1, 1), x -> x.make(10, 1, -1),
+        x -> x.make(9, 0, -1), x -> x.table(9, true, 4), x -> x.table(9, true, 0), x -> x.move(9, 2), x -> x.move(9, -1),
+        x -> x.move(9, 10), x -> x.held(0, 0), x -> x.held(0, 6), x -> x.same(0, 1), x -> x.same(0, 10),
+        x -> x.length(1, 1), x -> x.length(0, 4), x -> x.get(1, 1, 0), x -> x.get(10, 1, 0), x -> x.get(1, 3, 0),
+        x -> x.set(1, 1, 0, 1), x -> x.set(1, 3, 0, 1), x -> x.lay(3, 0, 0), x -> x.lay(10, 0, 0), x -> x.take(9, 3, 0),
+        x -> x.take(9, 3, 1), x -> x.cell(3, 0, 0), x -> x.cell(10, 0, 0), x -> x.copy(1, 0, 1, 1, 1),
+        x -> x.copy(1, 0, 10, 0, 0), x -> x.twin(9, 1), x -> x.twin(10, 0), x -> x.like(1, 2), x -> x.like(10, 0),
+        x -> x.hash(1), x -> x.hash(10), x -> x.order(1, 6), x -> x.order(10, 0), x -> x.named(1), x -> x.named(10),
+        x -> x.add(5, 6), x -> x.add(10, 0), x -> x.find(4, 1), x -> x.find(5, 6), x -> x.find(10, 0),
+        x -> x.term(9, 4, 0), x -> x.term(10, 0, 0), x -> x.told(4, 0), x -> x.told(0, 4), x -> x.slot(4, 0),
+        x -> x.slot(5, 0), x -> x.slot(10, 0), x -> x.ranked(4, 0), x -> x.ranked(10, 0), x -> x.merge(4, 5),
+        x -> x.merge(10, 0), KeptTerms::kept, Sentences::mean, KeptTerms::fault};
 
     // ---- 3 make
 
@@ -646,7 +664,8 @@ public final class PlacesBoundaries extends Sentences {
     private static void promises1To10() {
         says("1: All places hold nothing", PlacesBoundaries::newObject);
         says("2: The FAULT of the latest call that had one", PlacesBoundaries::theLatestFault);
-        says("2: 0: none so far", PlacesBoundaries::callsWithoutAFault);
+        says("2: of the latest call that had one, not behind it", PlacesBoundaries::callsWithoutAFault);
+        says("2: 0: none so far", PlacesBoundaries::noFaultSoFar);
         says("3: A place gets n cells (0, nothing)", PlacesBoundaries::makeCells);
         says("3: -2: kind, n above 16", PlacesBoundaries::makeOutside);
         says("3: FAULT 5", PlacesBoundaries::makeBelow0);

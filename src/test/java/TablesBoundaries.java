@@ -663,14 +663,15 @@ public final class TablesBoundaries extends Sentences {
         x.move(0, -1);
         x.find(1, 9);
         due("of one that is gone, too", mean(x), (16 + 4) / 8);
-        x.table(2, false, 8);
-        x.merge(2, 1);
-        due("by merge(), too", mean(x), (20 + 10) / 12);
-        x.find(1, 9);
-        x.find(1, 9);
-        due("how many", mean(x), (30 + 8) / 14);
-        due("find(), add() of one that is there", x.add(1, 9), 3);
-        due("as well", mean(x), (38 + 4) / 15);
+        x.table(2, false, 64);
+        for (int k = 0; k < 4; k++) {
+            x.merge(2, 1);
+        }
+        due("by merge(), too", mean(x), (20 + 16) / 24);
+        for (int k = 0; k < 6; k++) {
+            due("add() of one that is there", x.add(1, 9), 3);
+        }
+        due("as well", mean(x), (36 + 24) / 30);
     }
 
     private static void promises20To24() {
